@@ -1,0 +1,172 @@
+/** Promises 25 and 26: saving and restoring everything but the text. */
+public final class SnapshotTest {
+    public static void main(String[] args) {
+        promise25Save();
+        promise25ReplacesAnEarlierOne();
+        promise26Restore();
+        promise26Text();
+        promise26IsKept();
+        promise26Tickets();
+        Due.finish("SnapshotTest");
+    }
+
+    private static void promise25Save() {
+        SessionSimulator x = new SessionSimulator();
+        Due.be("nothing to restore", x.restore(), Due.NONE);
+        Due.be("save", x.save(), 0);
+        x.connect(5);
+        x.repeat(0);
+        Due.be("save two", x.save(), 2);
+        Due.be("nothing else", x.count(0), 2);
+        Due.be("no event", x.event(2, 0), Due.NONE);
+    }
+
+    private static void promise25ReplacesAnEarlierOne() {
+        SessionSimulator x = new SessionSimulator();
+        x.save();
+        x.tick(3);
+        x.save();
+        x.tick(4);
+        Due.be("restore", x.restore(), 0);
+        Due.be("the later one", x.count(5), 3);
+    }
+
+    /** A state in which each part of the simulator has something to lose. */
+    private static SessionSimulator busy() {
+        SessionSimulator x = Due.opened();
+        x.configure(2, 2, 9);
+        x.tick(4);
+        x.send(0, 1);
+        x.send(0, 2);
+        x.send(0, 3);
+        x.send(0, 4);
+        x.close(0);
+        x.send(1, 5);
+        Due.deliver(x, 0, 1);
+        x.repeat(0);
+        x.alter(1, 3);
+        x.drop(0);
+        return x;
+    }
+
+    private static long[] answers(SessionSimulator x) {
+        long[] all = new long[700];
+        int n = 0;
+        for (int what = 0; what <= 7; what++) {
+            all[n++] = what == 6 ? 0 : x.count(what);
+        }
+        for (int e = 0; e <= 1; e++) {
+            for (int what = 0; what <= 11; what++) {
+                all[n++] = x.endpoint(e, what);
+            }
+            for (int result = 0; result <= 8; result++) {
+                all[n++] = x.results(e, result);
+            }
+            for (int index = 0; index < 16; index++) {
+                all[n++] = x.taken(e, index);
+                for (int what = 0; what <= 3; what++) {
+                    all[n++] = x.kept(e, index, what);
+                }
+            }
+            all[n++] = x.window(e, 0);
+            all[n++] = x.window(e, 1);
+        }
+        for (int position = 0; position < 24; position++) {
+            all[n++] = x.foresee(position);
+            for (int what = 0; what <= 8; what++) {
+                all[n++] = x.packet(position, what);
+            }
+        }
+        for (int index = 0; index < 30; index++) {
+            for (int what = 0; what <= 2; what++) {
+                all[n++] = x.event(index, what);
+            }
+        }
+        all[n] = x.agree();
+        return all;
+    }
+
+    private static void same(String what, long[] got, long[] want) {
+        for (int i = 0; i < want.length; i++) {
+            Due.be(what + ", answer " + i, got[i], want[i]);
+        }
+    }
+
+    private static void disturb(SessionSimulator x) {
+        x.configure(20, 9, 50);
+        for (int i = 0; i < 12; i++) {
+            x.deliver(i % 3);
+            x.tick(5);
+            x.alter(0, 7);
+            x.drop(1);
+        }
+        x.disconnect();
+        x.resume(3);
+        for (int i = 0; i < 6; i++) {
+            x.deliver(0);
+        }
+        x.send(1, 9);
+        x.close(1);
+    }
+
+    private static void promise26Restore() {
+        SessionSimulator x = busy();
+        long[] before = answers(x);
+        Due.be("save", x.save(), x.count(0));
+        disturb(x);
+        Due.be("restore", x.restore(), before[0]);
+        same("restored", answers(x), before);
+        Due.be("settings", x.configure(3, 3, 3), 2209);
+        x.restore();
+        SessionSimulator y = busy();
+        y.save();
+        disturb(x);
+        disturb(y);
+        same("goes on as it would have", answers(x), answers(y));
+    }
+
+    private static void promise26Text() {
+        SessionSimulator x = new SessionSimulator();
+        x.append('t', 1);
+        x.save();
+        x.append('2', 1);
+        x.tick(5);
+        x.restore();
+        Due.be("the text stays", x.count(6), 2);
+        Due.be("t2", x.runScript(), 1);
+        Due.be("time 2", x.count(5), 2);
+        x.restore();
+        Due.be("no text", x.count(6), 0);
+    }
+
+    private static void promise26IsKept() {
+        SessionSimulator x = busy();
+        long[] before = answers(x);
+        x.save();
+        for (int i = 0; i < 3; i++) {
+            disturb(x);
+            Due.be("restore", x.restore(), before[0]);
+            same("restored again", answers(x), before);
+        }
+    }
+
+    private static void promise26Tickets() {
+        SessionSimulator x = Due.opened();
+        x.disconnect();
+        x.save();
+        x.resume(1);
+        Due.deliver(x, 0, 0, 0, 0);
+        Due.be("ticket 1", x.endpoint(0, 11), 1);
+        x.restore();
+        Due.be("ticket 0", x.endpoint(0, 11), 0);
+        Due.be("one issued", x.endpoint(1, 11), 1);
+        x.tick(5);
+        x.resume(1);
+        Due.be("not used", x.deliver(0), 0);
+        Due.deliver(x, 0, 0, 0);
+        x.disconnect();
+        x.tick(20);
+        x.resume(1);
+        Due.be("issued anew at 5", x.deliver(0), 0);
+    }
+}
