@@ -325,14 +325,21 @@ public final class SessionSimulator {
         if (!isScript) {
             return SYNTAX_ERROR - script.cursor;
         }
-        int done = 0;
-        for (int i = 0; i < script.actions; i++) {
-            if (isError(perform(i))) {
+        for (int done = 0; done < script.actions; done++) {
+            int number = script.numbers[done];
+            int answer;
+            switch (script.codes[done]) {
+                case 'd': answer = deliver(number); break;
+                case 'x': answer = drop(number); break;
+                case 'u': answer = repeat(number); break;
+                case 's': answer = send(script.endpoints[done], number); break;
+                default: answer = number == 0 ? world.time : tick(number);
+            }
+            if (isError(answer)) {
                 return done;
             }
-            done++;
         }
-        return done;
+        return script.actions;
     }
 
     public int save() {
@@ -578,17 +585,6 @@ public final class SessionSimulator {
         if (world.tickets.issued < MAX_TICKETS) {
             int ticket = world.tickets.issue(world.time);
             sendProtected(second, TICKET, ticket, 0);
-        }
-    }
-
-    private int perform(int action) {
-        int number = script.numbers[action];
-        switch (script.codes[action]) {
-            case 'd': return deliver(number);
-            case 'x': return drop(number);
-            case 'u': return repeat(number);
-            case 's': return send(script.endpoints[action], number);
-            default: return number == 0 ? world.time : tick(number);
         }
     }
 
