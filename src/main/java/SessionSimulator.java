@@ -1092,7 +1092,6 @@ public final class SessionSimulator {
             }
             int ticket = issued;
             issueTimes[ticket] = time;
-            used[ticket] = false;
             issued++;
             return ticket;
         }

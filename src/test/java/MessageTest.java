@@ -16,6 +16,8 @@ public final class MessageTest {
         promise13EndpointZeroFirst();
         promise17TakenInOrder();
         promise17Reach();
+        promise17EachWaits();
+        promise17AnewAfterClosing();
         promise17WaitingClose();
         promise18Kept();
         promise18Acknowledged();
@@ -205,6 +207,11 @@ public final class MessageTest {
         Due.be("four acknowledgements", x.count(0), 4);
         Due.be("taken once", x.endpoint(1, 8), 1);
         Due.be("expected", x.endpoint(1, 6), 2);
+        x = Due.opened();
+        x.send(0, 1);
+        x.tick(3);
+        Due.deliver(x, 0, 0);
+        Due.be("what was taken does not wait", x.endpoint(1, 7), 0);
     }
 
     /** With an altered ticket, endpoint 1 keeps the close of a stream that endpoint 0 has left. */
@@ -268,7 +275,7 @@ public final class MessageTest {
         x.tick(7);
         Due.be("every three ticks", x.count(0), 4);
         Due.fillNetwork(x);
-        x.tick(4);
+        x.tick(5);
         x.drop(0);
         sent = x.count(1);
         x.tick(1);
@@ -357,6 +364,51 @@ public final class MessageTest {
         Due.be("both are acknowledged", x.count(0), 2);
         Due.packet(x, 1, 1, 5, 2, 0, 2, 0, 0, 0);
         Due.be("nothing taken", x.endpoint(1, 8), 0);
+    }
+
+    /** Messages 1 to 7 wait in turn, so that each place for a waiting one is used. */
+    private static void promise17EachWaits() {
+        SessionSimulator x = Due.opened();
+        for (int number = 0; number < 8; number += 2) {
+            x.send(0, 30 + number);
+            x.send(0, 31 + number);
+            Due.deliver(x, 1);
+            Due.be("one waits", x.endpoint(1, 7), 1);
+            Due.be("expects the lower one", x.endpoint(1, 6), number);
+            Due.deliver(x, 0);
+            Due.be("none waits", x.endpoint(1, 7), 0);
+            Due.be("the lower one", x.taken(1, number), 30 + number);
+            Due.be("the higher one", x.taken(1, number + 1), 31 + number);
+            Due.deliver(x, 0, 0);
+        }
+        x.send(0, 1);
+        Due.deliver(x, 0, 0);
+        for (int number = 9; number < 15; number += 2) {
+            x.send(0, 30 + number);
+            x.send(0, 31 + number);
+            Due.deliver(x, 1);
+            Due.be("one waits at an even number", x.endpoint(1, 7), 1);
+            x.save();
+            x.disconnect();
+            Due.be("none after disconnecting", x.endpoint(1, 7), 0);
+            x.restore();
+            Due.deliver(x, 0, 0, 0);
+            Due.be("all are taken", x.endpoint(1, 8), number + 2);
+        }
+    }
+
+    private static void promise17AnewAfterClosing() {
+        SessionSimulator x = Due.closed();
+        x.connect(8);
+        Due.deliver(x, 0, 0, 0, 0);
+        x.send(0, 71);
+        x.send(1, 72);
+        Due.deliver(x, 0, 0, 0, 0);
+        Due.be("1 takes again", x.taken(1, 0), 71);
+        Due.be("0 takes again", x.taken(0, 0), 72);
+        x.close(0);
+        Due.deliver(x, 0, 0);
+        Due.be("one close does not close", x.endpoint(0, 0) * 10 + x.endpoint(1, 0), 33);
     }
 
     private static void promise17WaitingClose() {

@@ -13,6 +13,7 @@ public final class NetworkTest {
         promise12Alter();
         promise12AnyPacket();
         promise14Packet();
+        promise14PlainAfterProtected();
         promise14WrongPositions();
         Due.finish("NetworkTest");
     }
@@ -169,6 +170,9 @@ public final class NetworkTest {
         x.disconnect();
         x.connect(1);
         Due.be("a hello", x.foresee(0), 0);
+        x.repeat(0);
+        Due.deliver(x, 1);
+        Due.be("a reply", x.foresee(1), 0);
         x.alter(0, 9);
         Due.be("with a bad ticket", x.foresee(0), 8);
     }
@@ -275,6 +279,29 @@ public final class NetworkTest {
         Due.packet(x, 1, 0, 4, 1, 2, 0, 0, 66, 1, Due.tag(base, 0, 4, 2, 0, 0, 66, 1));
         Due.deliver(x, 0, 0);
         Due.packet(x, 0, 1, 5, 1, 2, 0, 0, 0, 1, Due.tag(base, 1, 5, 2, 0, 0, 0, 1));
+    }
+
+    /** What is not mentioned is 0, also where a protected packet stood before. */
+    private static void promise14PlainAfterProtected() {
+        SessionSimulator x = Due.opened();
+        x.configure(1, 3, 20);
+        for (int i = 0; i < 3; i++) {
+            x.send(0, i);
+            x.send(1, i);
+            Due.deliver(x, 0, 0, 0, 0);
+        }
+        x.send(0, 5);
+        x.send(1, 6);
+        Due.be("an epoch and an acknowledgement", x.packet(1, 3) > 0 && x.packet(1, 7) > 0 ? 1 : 0, 1);
+        x.disconnect();
+        x.connect(4);
+        Due.packet(x, 0, 0, 0, 2, 0, 0, 4, -1, 0, 0);
+        x.repeat(0);
+        Due.deliver(x, 1);
+        Due.packet(x, 1, 1, 1, 2, 0, 0, Due.mix(4, Due.mix(2, 0)), 0, 0, 0);
+        x.alter(0, 80);
+        Due.be("refused", x.deliver(0), 8);
+        Due.packet(x, 1, 1, 2, 2, 0, 0, 0, 0, 0, 0);
     }
 
     private static void promise14WrongPositions() {

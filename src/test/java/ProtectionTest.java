@@ -148,8 +148,10 @@ public final class ProtectionTest {
         Due.be("10 - 7 is not too old", x.foresee(2), 0);
         Due.be("10 - 8 is", x.foresee(1), 5);
         Due.be("and less", x.deliver(0), 5);
+        x.repeat(1);
         Due.deliver(x, 1);
         Due.be("10 and 3", x.window(1, 0), 10 * 256 + 129);
+        Due.be("3 again is a replay", x.foresee(x.count(0) - 2), 6);
         Due.be("counted", x.results(1, 5), 1);
     }
 

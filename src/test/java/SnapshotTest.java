@@ -7,6 +7,9 @@ public final class SnapshotTest {
         promise26Text();
         promise26IsKept();
         promise26Tickets();
+        promise26Messages();
+        promise26PreviousWindow();
+        promise26EachSituation();
         Due.finish("SnapshotTest");
     }
 
@@ -100,12 +103,14 @@ public final class SnapshotTest {
             x.alter(0, 7);
             x.drop(1);
         }
+        x.repeat(0);
         x.disconnect();
         x.resume(3);
         for (int i = 0; i < 6; i++) {
             x.deliver(0);
         }
         x.send(1, 9);
+        x.repeat(0);
         x.close(1);
     }
 
@@ -168,5 +173,134 @@ public final class SnapshotTest {
         x.tick(20);
         x.resume(1);
         Due.be("issued anew at 5", x.deliver(0), 0);
+    }
+
+    /** What has been taken and what waits comes back, although later streams took its places. */
+    private static void promise26Messages() {
+        SessionSimulator x = Due.opened();
+        x.send(0, 1);
+        x.send(0, 2);
+        x.close(0);
+        x.send(1, 3);
+        x.send(1, 4);
+        Due.deliver(x, 0, 1, 2);
+        Due.be("a close waits in 1", x.endpoint(1, 7), 1);
+        Due.be("4 waits in 0", x.endpoint(0, 7), 1);
+        x.save();
+        x.disconnect();
+        x.connect(2);
+        Due.deliver(x, 0, 0, 0, 0);
+        x.send(0, 5);
+        x.send(0, 6);
+        x.send(0, 7);
+        x.send(1, 8);
+        x.close(1);
+        Due.deliver(x, 0, 1, 2);
+        Due.be("5 instead of 1", x.taken(1, 0), 5);
+        Due.be("7 waits in 1", x.endpoint(1, 7), 1);
+        Due.be("a close waits in 0", x.endpoint(0, 7), 1);
+        x.restore();
+        Due.be("1 again", x.taken(1, 0), 1);
+        Due.deliver(x, 0, 0);
+        Due.be("2 is taken", x.taken(1, 1), 2);
+        Due.be("and the close", x.endpoint(1, 6) * 10 + x.endpoint(1, 8), 32);
+        Due.be("3 is taken", x.taken(0, 0), 3);
+        Due.be("and 4", x.taken(0, 1), 4);
+    }
+
+    private static void promise26PreviousWindow() {
+        SessionSimulator x = Due.opened();
+        x.configure(1, 1, 20);
+        x.send(0, 1);
+        x.configure(20, 1, 20);
+        x.tick(9);
+        Due.deliver(x, 0, 0);
+        x.save();
+        Due.deliver(x, 0, 0, 0);
+        Due.be("four further ones", x.endpoint(1, 10), 0);
+        x.restore();
+        Due.deliver(x, 0, 0);
+        Due.be("three further ones", x.endpoint(1, 10), 1);
+        Due.deliver(x, 0);
+        Due.be("four again", x.endpoint(1, 10), 0);
+    }
+
+    private static final int SITUATIONS = 7;
+
+    /** Brings a simulator from any state to one in which some part of it matters. */
+    private static void bring(SessionSimulator x, int situation) {
+        x.disconnect();
+        if (x.resume(100 + situation) < 0) {
+            x.connect(200 + situation);
+        }
+        if (situation == 0) {
+            x.tick(2);
+        } else if (situation == 1) {
+            x.repeat(0);
+            x.deliver(0);
+        } else {
+            open(x);
+        }
+        if (situation == 3) {
+            x.send(0, 33);
+            x.send(0, 34);
+            x.close(0);
+            x.deliver(2);
+            x.deliver(1);
+        } else if (situation == 4) {
+            x.configure(1, 2, 40);
+            x.send(0, 44);
+            x.send(1, 45);
+            x.deliver(0);
+            x.deliver(0);
+        } else if (situation == 5) {
+            x.configure(5, 3, 20);
+            x.send(1, 55);
+            x.send(0, 56);
+            open(x);
+            x.repeat(0);
+        } else if (situation == 6) {
+            x.close(0);
+            x.close(1);
+            open(x);
+        }
+    }
+
+    private static void open(SessionSimulator x) {
+        for (int i = 0; i < 4; i++) {
+            x.deliver(0);
+        }
+    }
+
+    private static void goOn(SessionSimulator x) {
+        x.send(0, 61);
+        x.send(1, 62);
+        x.tick(1);
+        for (int i = 0; i < 12; i++) {
+            x.deliver(i % 2);
+        }
+        x.tick(3);
+        open(x);
+    }
+
+    /** After restoring, a simulator goes on like one that has not seen anything since. */
+    private static void promise26EachSituation() {
+        for (int before = 0; before < SITUATIONS; before++) {
+            for (int since = 0; since < SITUATIONS; since++) {
+                SessionSimulator x = Due.opened();
+                SessionSimulator y = Due.opened();
+                bring(x, before);
+                bring(y, before);
+                x.save();
+                x.tick(4);
+                bring(x, since);
+                x.restore();
+                String what = before + " restored from " + since;
+                same(what, answers(x), answers(y));
+                goOn(x);
+                goOn(y);
+                same(what + ", going on", answers(x), answers(y));
+            }
+        }
     }
 }
