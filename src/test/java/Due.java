@@ -1,3 +1,7 @@
+import java.util.List;
+import java.util.function.Supplier;
+import java.util.function.ToIntFunction;
+
 /** Counts the answers that are not as due, and makes the situations that many tests begin with. */
 final class Due {
     static final int NONE = -1000000001;
@@ -7,6 +11,7 @@ final class Due {
 
     private static int wrong = 0;
     private static int asked = 0;
+    private static String about = "";
 
     private Due() {
     }
@@ -16,7 +21,7 @@ final class Due {
         if (got != want) {
             wrong++;
             if (wrong <= 40) {
-                System.out.println(what + " answered " + got + ", due is " + want);
+                System.out.println(about + what + " answered " + got + ", due is " + want);
             }
         }
     }
@@ -30,6 +35,30 @@ final class Due {
 
     static int wrong() {
         return wrong;
+    }
+
+    static int asked() {
+        return asked;
+    }
+
+    /** What the answers that follow are about; it is told with each wrong one. */
+    static void about(String sentence) {
+        about = sentence.isEmpty() ? "" : sentence + "\n    ";
+    }
+
+    static void same(String what, List<Integer> got, List<Integer> want) {
+        be(what + ", number of answers", got.size(), want.size());
+        for (int i = 0; i < got.size() && i < want.size(); i++) {
+            be(what + ", answer " + i, got.get(i), want.get(i));
+        }
+    }
+
+    /** A call answers as is due, and leaves a simulator like one that has not seen it. */
+    static void refused(String what, Supplier<SessionSimulator> maker,
+            ToIntFunction<SessionSimulator> call, int want) {
+        SessionSimulator x = maker.get();
+        be(what, call.applyAsInt(x), want);
+        same(what + " changes nothing", State.of(x), State.of(maker.get()));
     }
 
     /** The document's mixing, written out by its words once more. */
@@ -75,6 +104,16 @@ final class Due {
         be("state 1 when closed", x.endpoint(1, 0), 4);
         be("count(0) when closed", x.count(0), 0);
         return x;
+    }
+
+    /** The first position of a packet of this sender and kind, or -1. */
+    static int at(SessionSimulator x, int sender, int kind) {
+        for (int position = 0; position < x.count(0); position++) {
+            if (x.packet(position, 0) == sender && x.packet(position, 1) == kind) {
+                return position;
+            }
+        }
+        return -1;
     }
 
     static void fillNetwork(SessionSimulator x) {

@@ -1,3 +1,5 @@
+import java.util.List;
+
 /** Promises 25 and 26: saving and restoring everything but the text. */
 public final class SnapshotTest {
     public static void main(String[] args) {
@@ -52,49 +54,6 @@ public final class SnapshotTest {
         return x;
     }
 
-    private static long[] answers(SessionSimulator x) {
-        long[] all = new long[700];
-        int n = 0;
-        for (int what = 0; what <= 7; what++) {
-            all[n++] = what == 6 ? 0 : x.count(what);
-        }
-        for (int e = 0; e <= 1; e++) {
-            for (int what = 0; what <= 11; what++) {
-                all[n++] = x.endpoint(e, what);
-            }
-            for (int result = 0; result <= 8; result++) {
-                all[n++] = x.results(e, result);
-            }
-            for (int index = 0; index < 16; index++) {
-                all[n++] = x.taken(e, index);
-                for (int what = 0; what <= 3; what++) {
-                    all[n++] = x.kept(e, index, what);
-                }
-            }
-            all[n++] = x.window(e, 0);
-            all[n++] = x.window(e, 1);
-        }
-        for (int position = 0; position < 24; position++) {
-            all[n++] = x.foresee(position);
-            for (int what = 0; what <= 8; what++) {
-                all[n++] = x.packet(position, what);
-            }
-        }
-        for (int index = 0; index < 30; index++) {
-            for (int what = 0; what <= 2; what++) {
-                all[n++] = x.event(index, what);
-            }
-        }
-        all[n] = x.agree();
-        return all;
-    }
-
-    private static void same(String what, long[] got, long[] want) {
-        for (int i = 0; i < want.length; i++) {
-            Due.be(what + ", answer " + i, got[i], want[i]);
-        }
-    }
-
     private static void disturb(SessionSimulator x) {
         x.configure(20, 9, 50);
         for (int i = 0; i < 12; i++) {
@@ -116,18 +75,18 @@ public final class SnapshotTest {
 
     private static void promise26Restore() {
         SessionSimulator x = busy();
-        long[] before = answers(x);
+        List<Integer> before = State.of(x);
         Due.be("save", x.save(), x.count(0));
         disturb(x);
-        Due.be("restore", x.restore(), before[0]);
-        same("restored", answers(x), before);
+        Due.be("restore", x.restore(), before.get(0));
+        Due.same("restored", State.of(x), before);
         Due.be("settings", x.configure(3, 3, 3), 2209);
         x.restore();
         SessionSimulator y = busy();
         y.save();
         disturb(x);
         disturb(y);
-        same("goes on as it would have", answers(x), answers(y));
+        Due.same("goes on as it would have", State.of(x), State.of(y));
     }
 
     private static void promise26Text() {
@@ -146,12 +105,12 @@ public final class SnapshotTest {
 
     private static void promise26IsKept() {
         SessionSimulator x = busy();
-        long[] before = answers(x);
+        List<Integer> before = State.of(x);
         x.save();
         for (int i = 0; i < 3; i++) {
             disturb(x);
-            Due.be("restore", x.restore(), before[0]);
-            same("restored again", answers(x), before);
+            Due.be("restore", x.restore(), before.get(0));
+            Due.same("restored again", State.of(x), before);
         }
     }
 
@@ -296,10 +255,10 @@ public final class SnapshotTest {
                 bring(x, since);
                 x.restore();
                 String what = before + " restored from " + since;
-                same(what, answers(x), answers(y));
+                Due.same(what, State.of(x), State.of(y));
                 goOn(x);
                 goOn(y);
-                same(what + ", going on", answers(x), answers(y));
+                Due.same(what + ", going on", State.of(x), State.of(y));
             }
         }
     }
