@@ -33,6 +33,7 @@ final class ReportSentences {
         eventWithout();
         agreeOnlyIfAllIsSame();
         agreeOnlyInOneSession();
+        agreeOnlyWithOneBase();
         agreeAnswers();
         appendCode();
         appendCount();
@@ -306,13 +307,15 @@ final class ReportSentences {
             + " is not from 0 to 3.");
         SessionSimulator x = new SessionSimulator();
         Due.be("nothing is kept", x.kept(0, 0, 0), Due.NONE);
+        Due.be("nor by 1", x.kept(1, 0, 0), Due.NONE);
         x.send(0, 5);
+        x.send(1, 6);
         Due.be("kept(0, 0, 0)", x.kept(0, 0, 0), 0);
         Due.be("kept(0, 0, 3)", x.kept(0, 0, 3), -1);
         Due.be("kept(0, 0, 4)", x.kept(0, 0, 4), Due.BAD);
         Due.be("kept(0, 1, 0)", x.kept(0, 1, 0), Due.NONE);
         Due.be("kept(0, 16, 0)", x.kept(0, 16, 0), Due.NONE);
-        Due.be("kept(1, 0, 0)", x.kept(1, 0, 0), Due.NONE);
+        Due.be("kept(1, 1, 0)", x.kept(1, 1, 0), Due.NONE);
         for (int wrong : new int[] {-1, LEAST, MOST}) {
             Due.be("kept(" + wrong + ", 0, 0)", x.kept(wrong, 0, 0), Due.NONE);
             Due.be("kept(0, " + wrong + ", 0)", x.kept(0, wrong, 0), Due.NONE);
@@ -456,11 +459,14 @@ final class ReportSentences {
         Due.be("both are open", x.agree(), 1);
     }
 
-    /** Old copies of a hello and its finish open endpoint 1, while endpoint 0 has a later session. */
+    /**
+     * Old copies of a hello and its finish open endpoint 1 in session 1, while endpoint 0 is open in
+     * session 32; the nonces 37 and 21 give both sessions the same base.
+     */
     private static void agreeOnlyInOneSession() {
         Doc.says("Promise 22", "both are open with the same session and the same base.");
         SessionSimulator x = new SessionSimulator();
-        x.connect(5);
+        x.connect(37);
         x.repeat(0);
         Due.deliver(x, 0, 1);
         x.repeat(1);
@@ -469,11 +475,44 @@ final class ReportSentences {
         x.close(1);
         Due.deliver(x, 2, 2, 2, 2);
         Due.be("both are closed", x.endpoint(0, 0) * 10 + x.endpoint(1, 0), 44);
-        x.connect(6);
-        Due.deliver(x, 2, 2);
-        Due.be("open in session 2", x.endpoint(0, 0) * 10 + x.endpoint(0, 1), 32);
+        for (int session = 2; session <= 31; session++) {
+            x.connect(0);
+            x.alter(2, 50);
+            x.deliver(2);
+            Due.deliver(x, 2);
+        }
+        x.connect(21);
+        Due.deliver(x, 2, 2, 0, 0);
+        Due.be("both are open", x.endpoint(0, 0) * 10 + x.endpoint(1, 0), 33);
+        Due.be("session of 0", x.endpoint(0, 1), 32);
+        Due.be("session of 1", x.endpoint(1, 1), 1);
+        Due.be("the same base", x.endpoint(0, 9), x.endpoint(1, 9));
+        Due.be("agree", x.agree(), 0);
+    }
+
+    /**
+     * Endpoint 0 has the reply to a hello, and endpoint 1 the base by its copy three ticks later; the
+     * finish is altered until its tag is right by that base, too.
+     */
+    private static void agreeOnlyWithOneBase() {
+        Doc.says("Promise 22", "both are open with the same session and the same base.");
+        SessionSimulator x = new SessionSimulator();
+        x.configure(6, 9, 20);
+        x.tick(37);
+        x.connect(3766);
+        x.repeat(0);
+        Due.deliver(x, 0);
+        x.tick(3);
         Due.deliver(x, 0, 0);
-        Due.be("open in session 1", x.endpoint(1, 0) * 10 + x.endpoint(1, 1), 31);
+        for (int i = 0; i < 4; i++) {
+            x.alter(1, -99);
+        }
+        Due.be("b of the finish", x.alter(1, -87), -483);
+        Due.deliver(x, 1);
+        Due.be("both are open", x.endpoint(0, 0) * 10 + x.endpoint(1, 0), 33);
+        Due.be("the same session", x.endpoint(0, 1), x.endpoint(1, 1));
+        Due.be("base of 0", x.endpoint(0, 9), 7330584);
+        Due.be("base of 1", x.endpoint(1, 9), 7329412);
         Due.be("agree", x.agree(), 0);
     }
 
@@ -565,6 +604,8 @@ final class ReportSentences {
         Due.be("no action done", Due.run(x, "t99"), 0);
         Due.be("20 actions", Due.run(x, "t;".repeat(19) + "t"), 20);
         Due.be("time", x.count(5), 20);
+        Due.be("1 action after the 20", Due.run(x, "t"), 1);
+        Due.be("time", x.count(5), 21);
     }
 
     private static void saveReplaces() {
