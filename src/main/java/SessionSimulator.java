@@ -1006,9 +1006,11 @@ public final class SessionSimulator {
 
         void copyFrom(Inbox other) {
             System.arraycopy(other.takenValues, 0, takenValues, 0, MAX_TAKEN);
-            System.arraycopy(other.waits, 0, waits, 0, REACH);
-            System.arraycopy(other.waitingCloses, 0, waitingCloses, 0, REACH);
-            System.arraycopy(other.waitingValues, 0, waitingValues, 0, REACH);
+            for (int i = 0; i < REACH; i++) {
+                waits[i] = other.waits[i];
+                waitingCloses[i] = other.waitingCloses[i];
+                waitingValues[i] = other.waitingValues[i];
+            }
             takenCount = other.takenCount;
             expected = other.expected;
             closeNumber = other.closeNumber;
@@ -1073,8 +1075,10 @@ public final class SessionSimulator {
         int issued;
 
         void copyFrom(Tickets other) {
-            System.arraycopy(other.issueTimes, 0, issueTimes, 0, MAX_TICKETS);
-            System.arraycopy(other.used, 0, used, 0, MAX_TICKETS);
+            for (int i = 0; i < MAX_TICKETS; i++) {
+                issueTimes[i] = other.issueTimes[i];
+                used[i] = other.used[i];
+            }
             issued = other.issued;
         }
 

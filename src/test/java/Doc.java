@@ -30,7 +30,7 @@ final class Doc {
                 found++;
             }
         }
-        Due.be("sentences of the document with these words", Math.min(found, 1), 1);
+        Due.be("the document holds these words", found > 0 || SENTENCES.isEmpty() ? 1 : 0, 1);
         askedBefore = Due.asked();
     }
 
@@ -44,7 +44,7 @@ final class Doc {
     static void finish(List<String> others) {
         closeTest();
         Due.about("");
-        List<String> left = new ArrayList<>(others);
+        List<String> left = new ArrayList<>(SENTENCES.isEmpty() ? List.of() : others);
         SENTENCES.forEach((heading, sentences) -> {
             for (String sentence : sentences) {
                 boolean isOther = left.remove(heading + ": " + sentence);
@@ -57,7 +57,12 @@ final class Doc {
         }
     }
 
+    /** Without the document, the tests run all the same, and only the quotes are not compared. */
     static void read() throws IOException {
+        if (!Files.exists(FILE)) {
+            System.out.println("no " + FILE + ": the quotes are not compared with the document");
+            return;
+        }
         String text = Files.readString(FILE).replaceAll("(?s)```.*?```", "");
         String heading = "";
         StringBuilder block = new StringBuilder();

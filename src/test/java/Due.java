@@ -117,7 +117,12 @@ final class Due {
     }
 
     static void fillNetwork(SessionSimulator x) {
-        while (x.count(0) < 24) {
+        fillNetwork(x, 24);
+    }
+
+    /** Ends also if repeating does not work. */
+    static void fillNetwork(SessionSimulator x, int size) {
+        for (int i = 0; i < 24 && x.count(0) < size; i++) {
             x.repeat(0);
         }
     }

@@ -18,6 +18,7 @@ final class EffectSentences {
         refusalMakesIdle();
         ticket16And17();
         acknowledgementOfTheNumberBefore();
+        acknowledgementOfTheLowest();
         acknowledgementBeyondTheLast();
         finishAndAcknowledgementDoNoMore();
         laterTicketInsteadOfTheEarlier();
@@ -30,6 +31,7 @@ final class EffectSentences {
         numberLessThanExpected();
         numberGreaterBy3And4();
         waitsAlready();
+        eachNumberWaits();
         gapBehindTheExpected();
         takenIsAppended();
         nothingAfterAClose();
@@ -56,7 +58,7 @@ final class EffectSentences {
             }
             all.add(x.window(e, 0));
             all.add(x.window(e, 1));
-            for (int index = 0; index < x.endpoint(e, 5); index++) {
+            for (int index = 0; index < Math.min(16, x.endpoint(e, 5)); index++) {
                 all.add(x.kept(e, index, 3));
             }
         }
@@ -316,6 +318,27 @@ final class EffectSentences {
         Due.be("message 1 is kept", x.kept(0, 0, 0), 1);
     }
 
+    private static void acknowledgementOfTheLowest() {
+        Doc.says("Description", "Messages of the endpoint with numbers less than the acknowledgement");
+        SessionSimulator x = Due.opened();
+        for (int i = 0; i < 5; i++) {
+            x.send(0, i);
+        }
+        Due.deliver(x, 0, 0);
+        x.repeat(2);
+        Due.deliver(x, 2);
+        Due.be("the lowest after an acknowledgement of 2", lowestAndKept(x), 203);
+        Due.deliver(x, 1);
+        Due.be("after an earlier one, of 1", lowestAndKept(x), 203);
+        x.send(1, 9);
+        Due.deliver(x, x.count(0) - 1);
+        Due.be("after a message with 2 again", lowestAndKept(x), 203);
+    }
+
+    private static int lowestAndKept(SessionSimulator x) {
+        return x.kept(0, 0, 0) * 100 + x.endpoint(0, 5);
+    }
+
     /** Endpoint 0 begins a new stream, and endpoint 1 expects message 3 of the old one. */
     private static void acknowledgementBeyondTheLast() {
         Doc.says("Description", "Messages of the endpoint with numbers less than the acknowledgement");
@@ -521,6 +544,37 @@ final class EffectSentences {
         Due.deliver(x, 0);
         Due.be("taken", x.endpoint(1, 8), 2);
         Due.be("waits", x.endpoint(1, 7), 0);
+    }
+
+    /** Odd and even numbers, beyond those that can be expected and wait at once. */
+    private static void eachNumberWaits() {
+        Doc.says("Description", "if it is greater, it waits");
+        for (int first = 0; first <= 1; first++) {
+            SessionSimulator x = Due.opened();
+            x.configure(20, 9, 20);
+            if (first == 1) {
+                x.send(0, 20);
+                Due.deliver(x, 0, 0);
+            }
+            for (int number = first; number < 9; number += 2) {
+                pairInWrongOrder(x, number);
+            }
+        }
+    }
+
+    private static void pairInWrongOrder(SessionSimulator x, int number) {
+        x.send(0, 20 + number);
+        x.send(0, 21 + number);
+        Due.deliver(x, 1);
+        Due.be("number " + (number + 1) + " waits", x.endpoint(1, 7), 1);
+        x.save();
+        x.disconnect();
+        Due.be("and is discarded by disconnecting", x.endpoint(1, 7), 0);
+        x.restore();
+        Due.deliver(x, 0);
+        Due.be("it is taken in its turn", x.taken(1, number + 1), 21 + number);
+        Due.be("none waits", x.endpoint(1, 7), 0);
+        Due.deliver(x, 1, 0);
     }
 
     private static void gapBehindTheExpected() {

@@ -511,9 +511,7 @@ final class PacketSentences {
         x.send(0, 1);
         x.send(0, 2);
         Due.deliver(x, 0);
-        while (x.count(0) < 23) {
-            x.repeat(0);
-        }
+        Due.fillNetwork(x, 23);
         Due.deliver(x, 0);
         Due.packet(x, 22, 0, 3);
         Due.packet(x, 23, 0, 4, 1, 0, 1, 0, 1);

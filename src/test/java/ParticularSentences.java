@@ -121,9 +121,7 @@ final class ParticularSentences {
         Doc.says("Description", "The actions are: to deliver, drop or repeat the packet at a position");
         SessionSimulator x = Due.opened();
         x.send(0, 7);
-        while (x.count(0) < 23) {
-            x.repeat(0);
-        }
+        Due.fillNetwork(x, 23);
         Due.be("u22", Due.run(x, "u22"), 1);
         Due.be("packets", x.count(0), 24);
         Due.be("x24 of none", Due.run(x, "x24"), 1);

@@ -41,6 +41,7 @@ final class ReportSentences {
         scriptEndsBeforeErrors();
         scriptLeavesNoText();
         scriptAnswers();
+        saveHoldsEverything();
         saveReplaces();
         saveAnswers();
         restoreIsKept();
@@ -568,9 +569,7 @@ final class ReportSentences {
         Due.be("the last one", Due.run(x, "t;t50;t51"), 2);
         Due.be("time", x.count(5), 51);
         x.send(0, 5);
-        while (x.count(0) < 23) {
-            x.repeat(0);
-        }
+        Due.fillNetwork(x, 23);
         Due.be("a 25th packet", Due.run(x, "u0;u0;t"), 1);
         for (int i = 1; i < 15; i++) {
             x.send(0, i);
@@ -608,8 +607,17 @@ final class ReportSentences {
         Due.be("time", x.count(5), 21);
     }
 
+    /** Each part of the state is saved when it matters, and lost before it is restored. */
+    private static void saveHoldsEverything() {
+        Doc.says("Promise 25", "Saves everything but the text");
+        SnapshotTest.promise26Tickets();
+        SnapshotTest.promise26Messages();
+        SnapshotTest.promise26PreviousWindow();
+        SnapshotTest.promise26EachSituation();
+    }
+
     private static void saveReplaces() {
-        Doc.says("Promise 25", "Saves everything but the text, replacing an earlier snapshot.");
+        Doc.says("Promise 25", "replacing an earlier snapshot.");
         SessionSimulator x = Due.opened();
         x.save();
         x.send(0, 5);

@@ -114,7 +114,7 @@ public final class SnapshotTest {
         }
     }
 
-    private static void promise26Tickets() {
+    static void promise26Tickets() {
         SessionSimulator x = Due.opened();
         x.disconnect();
         x.save();
@@ -135,7 +135,7 @@ public final class SnapshotTest {
     }
 
     /** What has been taken and what waits comes back, although later streams took its places. */
-    private static void promise26Messages() {
+    static void promise26Messages() {
         SessionSimulator x = Due.opened();
         x.send(0, 1);
         x.send(0, 2);
@@ -167,18 +167,23 @@ public final class SnapshotTest {
         Due.be("and 4", x.taken(0, 1), 4);
     }
 
-    private static void promise26PreviousWindow() {
+    static void promise26PreviousWindow() {
         SessionSimulator x = Due.opened();
+        x.send(0, 7);
+        Due.deliver(x, 0, 0);
         x.configure(1, 1, 20);
         x.send(0, 1);
         x.configure(20, 1, 20);
         x.tick(9);
-        Due.deliver(x, 0, 0);
-        x.save();
         Due.deliver(x, 0, 0, 0);
-        Due.be("four further ones", x.endpoint(1, 10), 0);
-        x.restore();
+        x.save();
         Due.deliver(x, 0, 0);
+        Due.be("four further ones", x.endpoint(1, 10), 0);
+        x.disconnect();
+        x.restore();
+        Due.be("the window", x.window(1, 0), 2 * 256 + 7);
+        Due.be("the previous window", x.window(1, 1), 256 + 3);
+        Due.deliver(x, 0);
         Due.be("three further ones", x.endpoint(1, 10), 1);
         Due.deliver(x, 0);
         Due.be("four again", x.endpoint(1, 10), 0);
@@ -243,7 +248,7 @@ public final class SnapshotTest {
     }
 
     /** After restoring, a simulator goes on like one that has not seen anything since. */
-    private static void promise26EachSituation() {
+    static void promise26EachSituation() {
         for (int before = 0; before < SITUATIONS; before++) {
             for (int since = 0; since < SITUATIONS; since++) {
                 SessionSimulator x = Due.opened();

@@ -13,13 +13,13 @@ final class State {
         }
         addEndpoint(x, 0, all);
         addEndpoint(x, 1, all);
-        for (int position = 0; position < all.get(0); position++) {
+        for (int position = 0; position < Math.min(24, all.get(0)); position++) {
             all.add(x.foresee(position));
             for (int what = 0; what <= 8; what++) {
                 all.add(x.packet(position, what));
             }
         }
-        for (int index = 0; x.event(index, 0) != Due.NONE; index++) {
+        for (int index = 0; index < 40 && x.event(index, 0) != Due.NONE; index++) {
             for (int what = 0; what <= 2; what++) {
                 all.add(x.event(index, what));
             }
@@ -38,10 +38,10 @@ final class State {
         }
         all.add(x.window(e, 0));
         all.add(x.window(e, 1));
-        for (int index = 0; index < x.endpoint(e, 8); index++) {
+        for (int index = 0; index < Math.min(512, x.endpoint(e, 8)); index++) {
             all.add(x.taken(e, index));
         }
-        for (int index = 0; index < x.endpoint(e, 5); index++) {
+        for (int index = 0; index < Math.min(16, x.endpoint(e, 5)); index++) {
             for (int what = 0; what <= 3; what++) {
                 all.add(x.kept(e, index, what));
             }
