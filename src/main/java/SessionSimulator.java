@@ -325,7 +325,7 @@ public final class SessionSimulator {
         if (!isScript) {
             return SYNTAX_ERROR - script.cursor;
         }
-        for (int done = 0; done < script.actions; done++) {
+        for (int done = 0; done < script.actions && done < MAX_TEXT; done++) {
             int number = script.numbers[done];
             int answer;
             switch (script.codes[done]) {
