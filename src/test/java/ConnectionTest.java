@@ -15,6 +15,8 @@ public final class ConnectionTest {
         promise4ResumeErrors();
         promise4ResumeFull();
         promise4Refusal();
+        promise4RefusalOfAClosedEndpoint();
+        promise4ResumingWithAClosedEndpoint();
         promise4TicketAgeAndUse();
         promise4AlteredTickets();
         promise5Disconnect();
@@ -336,6 +338,52 @@ public final class ConnectionTest {
         Due.packet(x, 1, 1, 2, 2);
         Due.be("a refusal of another session", x.deliver(1), 2);
         Due.be("waits still", x.endpoint(0, 0), 1);
+    }
+
+    /** Endpoint 1 is closed; endpoint 0, which has not heard of it, is idle and has ticket 0. */
+    private static SessionSimulator onlyEndpoint1Closed() {
+        SessionSimulator x = Due.opened();
+        x.close(1);
+        Due.deliver(x, 0, 0);
+        x.close(0);
+        Due.deliver(x, 0);
+        Due.be("endpoint 1 is closed", x.endpoint(1, 0), 4);
+        Due.be("its acknowledgement is lost", x.disconnect(), 1);
+        Due.be("endpoint 0 is idle", x.endpoint(0, 0), 0);
+        Due.be("endpoint 1 is closed still", x.endpoint(1, 0), 4);
+        return x;
+    }
+
+    private static void promise4RefusalOfAClosedEndpoint() {
+        SessionSimulator x = onlyEndpoint1Closed();
+        x.tick(21);
+        Due.be("resume", x.resume(2), 2);
+        Due.be("too old", x.deliver(0), 8);
+        Due.be("closed as before", x.endpoint(1, 0), 4);
+        Due.packet(x, 0, 1, 2, 2, 0, 0, 0, 0, 0, 0);
+        Due.deliver(x, 0);
+        Due.be("idle", x.endpoint(0, 0), 0);
+    }
+
+    private static void promise4ResumingWithAClosedEndpoint() {
+        SessionSimulator x = onlyEndpoint1Closed();
+        Due.be("resume", x.resume(2), 2);
+        Due.deliver(x, 0);
+        Due.be("endpoint 1 has replied", x.endpoint(1, 0), 2);
+        Due.be("it has its close still", x.send(1, 3), Due.STATE);
+        Due.deliver(x, 0);
+        Due.be("endpoint 0 is open", x.endpoint(0, 0), 3);
+        Due.be("a finish and the close again", x.count(0), 2);
+        Due.deliver(x, 0);
+        Due.event(x, 0, 3, 1, 4);
+        Due.event(x, 1, 0, 1, 6);
+        Due.event(x, 2, 3, 1, 3);
+        Due.event(x, 3, 1, 3, 0);
+        Due.be("the ticket closes endpoint 0", x.deliver(1), 0);
+        Due.event(x, 0, 3, 0, 4);
+        Due.event(x, 1, 1, 6, 0);
+        Due.be("the close again", x.deliver(0), 0);
+        Due.packet(x, 0, 1, 5, 2, 0, 1, 0, 0, 1);
     }
 
     private static void promise4TicketAgeAndUse() {

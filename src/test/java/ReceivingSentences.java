@@ -20,6 +20,7 @@ final class ReceivingSentences {
         tagComesBeforeWindow();
         oldComesBeforeAgain();
         oldComesBeforeClose();
+        againComesBeforeClose();
         endpoint1TakesHellos();
         endpoint0TakesRepliesAndRefusals();
         openEndpointsTakeProtectedOnes();
@@ -237,6 +238,43 @@ final class ReceivingSentences {
         Due.packet(x, 10, 0, 4, 2, 0, 11, 0, 1);
         Due.deliver(x, 10);
         Due.be("message 1 with 2 < 11 - 7", x.foresee(1), OLD);
+    }
+
+    /**
+     * A copy of the hello opens the same session again for the closed endpoint 1, with the same base,
+     * as the time is the same. Its new stream goes on behind the close that endpoint 0 has taken.
+     */
+    private static void againComesBeforeClose() {
+        Doc.says("Description", "the first of these that applies:");
+        SessionSimulator x = new SessionSimulator();
+        x.connect(5);
+        x.repeat(0);
+        Due.deliver(x, 0, 1, 1, 1);
+        x.send(0, 1);
+        x.send(0, 2);
+        Due.deliver(x, 1, 1, 1, 1);
+        x.close(1);
+        Due.deliver(x, 1, 1);
+        Due.be("numbers 0 to 3 were accepted", x.window(0, 0), 3 * 256 + 15);
+        x.close(0);
+        Due.deliver(x, 1);
+        Due.be("endpoint 1 is closed", x.endpoint(1, 0), 4);
+        x.drop(1);
+        Due.deliver(x, 0);
+        Due.be("endpoint 1 has replied", x.endpoint(1, 0), 2);
+        Due.be("the same base", x.endpoint(1, 9), x.endpoint(0, 9));
+        x.drop(0);
+        x.tick(3);
+        Due.deliver(x, 0);
+        x.send(1, 7);
+        x.send(1, 8);
+        x.send(1, 9);
+        Due.packet(x, 2, 1, 4, 1, 0, 2, 0);
+        Due.packet(x, 3, 1, 4, 1, 0, 3, 1);
+        Due.packet(x, 4, 1, 4, 1, 0, 4, 2);
+        Due.be("message 0, the number of the close", x.foresee(2), AGAIN);
+        Due.be("message 1, behind the close, too", x.foresee(3), AGAIN);
+        Due.be("message 2 with a number not accepted yet", x.foresee(4), BEHIND_CLOSE);
     }
 
     private static void endpoint1TakesHellos() {
