@@ -5,7 +5,7 @@ import java.util.Random;
  * all that can be asked is asked; the class counts no calls, so asking does not wear it out.
  */
 public final class ModelTest {
-    private static final int RUNS = 600;
+    private static final int RUNS = 700;
     private static final int CALLS = 512;
     private static final int[][] seen = new int[2][9];
     private static int opened = 0;
@@ -20,7 +20,7 @@ public final class ModelTest {
 
     private ModelTest(int run) {
         random = new Random(run);
-        style = run % 6;
+        style = run % 7;
         name = "run " + run;
     }
 
@@ -106,6 +106,9 @@ public final class ModelTest {
         if (style == 3) {
             beginWithAForeignTicket(nonce);
         }
+        if (style == 6) {
+            beginWithACopiedHello(nonce);
+        }
         if (pick(2) == 0) {
             same("resume " + nonce, x.resume(nonce), model.act(c -> c.resume(nonce)));
         }
@@ -125,6 +128,36 @@ public final class ModelTest {
         same("alter " + delta, x.alter(0, delta), model.act(c -> c.alter(0, delta)));
         for (int i = 0; i < 4; i++) {
             same("deliver 0", x.deliver(0), model.act(c -> c.deliver(0)));
+        }
+    }
+
+    /** Endpoint 1 closes, and begins its stream anew in the same session and with the same keys. */
+    private void beginWithACopiedHello(int nonce) {
+        same("disconnect", x.disconnect(), model.act(c -> c.disconnect()));
+        same("connect " + nonce, x.connect(nonce), model.act(c -> c.connect(nonce)));
+        same("repeat 0", x.repeat(0), model.act(c -> c.repeat(0)));
+        same("deliver 0", x.deliver(0), model.act(c -> c.deliver(0)));
+        deliverSecond(3);
+        for (int i = pick(5); i >= 0; i--) {
+            same("send 0", x.send(0, 4), model.act(c -> c.send(0, 4)));
+        }
+        deliverSecond(8);
+        same("close 1", x.close(1), model.act(c -> c.close(1)));
+        deliverSecond(2 + pick(2));
+        same("close 0", x.close(0), model.act(c -> c.close(0)));
+        deliverSecond(1);
+        same("drop 1", x.drop(1), model.act(c -> c.drop(1)));
+        same("deliver 0", x.deliver(0), model.act(c -> c.deliver(0)));
+        same("tick 3", x.tick(3), model.act(c -> c.tick(3)));
+        for (int i = pick(7); i >= 0; i--) {
+            same("deliver 0", x.deliver(0), model.act(c -> c.deliver(0)));
+            same("send 1", x.send(1, 9), model.act(c -> c.send(1, 9)));
+        }
+    }
+
+    private void deliverSecond(int times) {
+        for (int i = 0; i < times; i++) {
+            same("deliver 1", x.deliver(1), model.act(c -> c.deliver(1)));
         }
     }
 
